@@ -583,13 +583,10 @@ public final class ShuffleMill {
         /** Puts THE CHAIN in order; false if it can not be run. */
         boolean plan() {
             chained = 0;
-            if (hasClash()) {
-                return false;
-            }
             int made = madeJobs();
             for (int i = 0; i < made; i++) {
                 int next = nextForChain();
-                if (next == NONE) {
+                if (next == NONE || sharesOutput(next)) {
                     return false;
                 }
                 chain[chained] = next;
@@ -598,19 +595,9 @@ public final class ShuffleMill {
             return true;
         }
 
-        /** The two rules of THE CHAIN that no order can mend. */
-        private boolean hasClash() {
-            for (int j = 0; j < JOBS; j++) {
-                if (jobs[j].isMade() && (jobs[j].reads(jobs[j].output()) || sharesOutput(j))) {
-                    return true;
-                }
-            }
-            return false;
-        }
-
         private boolean sharesOutput(int j) {
-            for (int k = j + 1; k < JOBS; k++) {
-                if (jobs[k].isMade() && jobs[k].output() == jobs[j].output()) {
+            for (int k = 0; k < JOBS; k++) {
+                if (k != j && jobs[k].isMade() && jobs[k].output() == jobs[j].output()) {
                     return true;
                 }
             }
@@ -619,14 +606,15 @@ public final class ShuffleMill {
 
         private int nextForChain() {
             for (int j = 0; j < JOBS; j++) {
-                if (jobs[j].isMade() && !isChained(j) && !waitsForOther(j)) {
+                if (jobs[j].isMade() && !isChained(j) && !waitsForOutput(j)) {
                     return j;
                 }
             }
             return NONE;
         }
 
-        private boolean waitsForOther(int j) {
+        /** One that has its own OUTPUT as INPUT waits for itself, and so is never next. */
+        private boolean waitsForOutput(int j) {
             for (int k = 0; k < JOBS; k++) {
                 if (jobs[k].isMade() && jobs[j].reads(jobs[k].output()) && !isChained(k)) {
                     return true;
@@ -680,7 +668,8 @@ public final class ShuffleMill {
         private boolean trapped;
         private int kind;
         private long key;
-        private Pairs row;
+        /** Whose VALUES a call reads; never null, though no call has been yet. */
+        private Pairs row = emitted;
         private int next;
         private int end;
 

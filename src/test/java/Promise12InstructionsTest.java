@@ -74,6 +74,8 @@ final class Promise12InstructionsTest {
         made("14 changes", Due.MAP, 1, new long[] {0, 0, 0, 1, 0, 2, 14, 0, 17, 0}, 2, 1);
         made("18 ends", Due.MAP, 1, new long[] {1, 0, 2, 0, 17, 0, 18, 0, 13, 0}, 3, 5);
         made("what is left on the stack says nothing", Due.MAP, 2, new long[] {0, 1, 0, 2, 0, 3, 17, 0}, 2, 3, 2, 3);
+        made("it is gone when the next call begins", Due.MAP, 14, new long[] {0, 1}, new long[0]);
+        trap("what an earlier call left is not there", Due.MAP, 2, 2, 0, 0, 5, 11, 0, 16, 6, 0, 1, 18, 0, 13, 0);
     }
 
     private static void result(String what, int op, long lower, long top, long want) {

@@ -15,11 +15,11 @@ final class Trials {
         Due.give(mill, 0, Due.COMBINE, Due.COMBINE_SUM);
         Due.give(mill, 0, Due.REDUCE, Due.SUM);
         mill.job(0, 0, 0, 1, 4);
-        // each RECORD four times, so that a SPLIT emits more than a WORKER's memory takes at once
+        // four pairs a RECORD: more than a WORKER's memory, and a page on the line, take at once
         Due.give(mill, 1, Due.MAP, 2, 0, 1, 0, 17, 0, 1, 0, 2, 0, 17, 0, 1, 0, 12, 0, 17, 0, 2, 0, 12, 0, 17, 0);
         Due.give(mill, 1, Due.REDUCE, Due.SUM);
-        mill.job(1, 1, 0, 2, 6);
-        Due.copyJob(mill, 2, 2, 1, 0 + 3, 2);
+        mill.job(1, 1, 0, 2, 2);
+        Due.copyJob(mill, 2, 2, 1, 3, 6);
         return mill;
     }
 
