@@ -17,6 +17,8 @@ final class Due {
 
     private static int asked = 0;
     private static int wrong = 0;
+    private static int tests = 0;
+    private static String sentence = "";
 
     interface Call {
         long answer();
@@ -29,19 +31,46 @@ final class Due {
     private Due() {
     }
 
+    /** A test of its own for the words of the document that it stands under; what it throws is its own fault too. */
+    static void test(String words, Act act) {
+        int before = asked;
+        sentence = words + ": ";
+        tests++;
+        try {
+            act.run();
+        } catch (RuntimeException e) {
+            fault("threw " + e);
+        }
+        if (asked == before) {
+            fault("asks nothing");
+        }
+        sentence = "";
+    }
+
+    private static void fault(String text) {
+        wrong++;
+        System.out.println(sentence + text);
+    }
+
     static void is(String what, long want, long got) {
         asked++;
         if (got != want) {
-            wrong++;
-            System.out.println(what + " answered " + got + ", due is " + want);
+            fault(what + " answered " + got + ", due is " + want);
         }
+    }
+
+    static void yes(String what, boolean got) {
+        is(what, 1, got ? 1 : 0);
+    }
+
+    static void no(String what, boolean got) {
+        is(what, 0, got ? 1 : 0);
     }
 
     static void same(String what, Object want, Object got) {
         asked++;
         if (!Objects.equals(want, got)) {
-            wrong++;
-            System.out.println(what + " answered " + got + ", due is " + want);
+            fault(what + " answered " + got + ", due is " + want);
         }
     }
 
@@ -54,8 +83,7 @@ final class Due {
             got = e.getClass();
         }
         if (got != want) {
-            wrong++;
-            System.out.println(what + " threw " + got + ", due is " + want);
+            fault(what + " threw " + got + ", due is " + want);
         }
     }
 
@@ -109,6 +137,9 @@ final class Due {
         if (wrong > 0) {
             System.out.println(wrong + " of " + asked + " answers are wrong");
             System.exit(1);
+        }
+        if (tests > 0) {
+            System.out.println("        " + tests + " tests, " + asked + " answers");
         }
     }
 }

@@ -8,26 +8,59 @@ import java.util.TreeSet;
 /** A new object: FILES are empty, there are no JOBS; and the public face is the document's. */
 final class Promise01NewObjectTest {
     public static void main(String[] args) {
+        Due.test("FILES are empty", Promise01NewObjectTest::files);
+        Due.test("there are no JOBS", Promise01NewObjectTest::jobs);
+        Due.test("nothing else is there", Promise01NewObjectTest::others);
+        Due.test("objects share nothing", Promise01NewObjectTest::apart);
+        Due.test("The public face", Promise01NewObjectTest::face);
+        Due.end();
+    }
+
+    private static void files() {
         ShuffleMill mill = new ShuffleMill();
         for (int f = 0; f < 16; f++) {
-            Due.is("size of a new FILE", 0, mill.size(f));
+            int at = f;
+            Due.is("size", 0, mill.size(f));
+            Due.noFile("RECORD 0", () -> mill.told(at, 0, false));
         }
-        for (int what = 0; what <= 3; what++) {
-            Due.is("count " + what + " of a new object", 0, mill.count(what));
-        }
-        for (int what = 10; what < 50; what += 10) {
-            for (int j = 0; j < 8; j++) {
-                Due.is("count " + (what + j) + " of a new object", 0, mill.count(what + j));
+    }
+
+    private static void jobs() {
+        ShuffleMill mill = new ShuffleMill();
+        Due.is("JOBS", 0, mill.count(1));
+        for (int j = 0; j < 8; j++) {
+            int at = j;
+            for (int what = 10; what < 50; what += 10) {
+                Due.is("count " + (what + j), 0, mill.count(what + j));
             }
+            Due.no("drop", mill.drop(j));
+            Due.badState("job without PROGRAMS", () -> mill.job(at, 0, -1, 1, 1));
         }
-        Due.is("check of a new object", 0, mill.check());
-        Due.is("a RUN without JOBS", 0, mill.begin());
-        Due.is("its end", -1, mill.finish());
+        Due.is("begin", 0, mill.begin());
+        Due.is("finish", -1, mill.finish());
+    }
+
+    private static void others() {
+        ShuffleMill mill = new ShuffleMill();
+        Due.is("THE RUN does not go on", 0, mill.count(0));
+        Due.is("none is put together", 0, mill.count(2));
+        Due.is("no RUN was begun", 0, mill.count(3));
+        Due.is("check", 0, mill.check());
+        Due.is("the first INSTRUCTION", 1, mill.code(0, 0));
+    }
+
+    private static void apart() {
+        ShuffleMill mill = new ShuffleMill();
         ShuffleMill other = new ShuffleMill();
         mill.record(0, 1, 2);
-        Due.is("objects share nothing", 0, other.size(0));
-        face();
-        Due.end();
+        Due.copyJob(mill, 0, 0, -1, 1, 1);
+        mill.code(0, 0);
+        mill.begin();
+        Due.is("size", 0, other.size(0));
+        for (int what : new int[] {0, 1, 2, 3, 10, 20, 40}) {
+            Due.is("count " + what, 0, other.count(what));
+        }
+        Due.is("size of a later one", 0, new ShuffleMill().size(0));
     }
 
     private static void face() {

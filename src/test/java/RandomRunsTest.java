@@ -5,7 +5,8 @@ import java.util.Random;
  * same, however THE RUN is ticked, crashed and disturbed.
  */
 final class RandomRunsTest {
-    private static final int RUNS = 1500;
+    private static final int RUNS = 2500;
+    /** What later calls answer is free. */
     private static final int CALLS = 512;
 
     private final Random random;
@@ -14,7 +15,7 @@ final class RandomRunsTest {
     private int calls;
     private static int finished;
     private static int failed;
-    private static int records;
+    private static int seen;
 
     private RandomRunsTest(long seed) {
         random = new Random(seed);
@@ -24,7 +25,7 @@ final class RandomRunsTest {
         for (long seed = 1; seed <= RUNS; seed++) {
             new RandomRunsTest(seed).play(seed);
         }
-        System.out.println(finished + " RUNS ended well with " + records + " RECORDS, in " + failed + " a JOB FAILED");
+        System.out.println(finished + " RUNS ended well, in " + failed + " a JOB FAILED; " + seen + " RECORDS were seen");
         Due.is("some RUNS end well", 1, finished > RUNS ? 1 : 0);
         Due.is("some JOBS FAIL", 1, failed > RUNS / 10 ? 1 : 0);
         Due.end();
@@ -45,27 +46,32 @@ final class RandomRunsTest {
         return want;
     }
 
+    private boolean left(int many) {
+        return calls + many <= CALLS;
+    }
+
     private void play(long seed) {
         String run = "seed " + seed + " ";
         fill(run);
-        while (calls < CALLS - 60) {
+        while (left(110)) {
             for (int i = random.nextInt(4); i > 0; i--) {
                 oddCall(run);
             }
             for (int i = 1 + random.nextInt(3); i > 0; i--) {
                 makeJob(run);
             }
-            if (calls < CALLS - 40) {
+            if (left(70)) {
                 playRun(run);
             }
         }
-        compareFiles(run);
+        compareFiles(run, CALLS - calls - 17);
     }
 
     /** Few calls make many RECORDS only by JOBS, so the FILES are filled for one part and made for the other. */
     private void fill(String run) {
         int range = 1 + random.nextInt(40);
-        for (int i = 20 + random.nextInt(150); i > 0; i--) {
+        int many = random.nextBoolean() ? 5 + random.nextInt(40) : 20 + random.nextInt(150);
+        for (int i = many; i > 0; i--) {
             int f = random.nextInt(3);
             long key = random.nextInt(20) == 0 ? random.nextLong() : random.nextInt(2 * range) - range;
             long value = random.nextInt(20) == 0 ? random.nextLong() : random.nextInt(40) - 5;
@@ -142,8 +148,8 @@ final class RandomRunsTest {
 
     private void makeJob(String run) {
         int j = random.nextInt(8);
-        boolean fresh = answer(() -> mill.count(20 + j)).equals(0L) || random.nextInt(4) == 0;
-        if (fresh && calls < CALLS - 150) {
+        boolean fresh = plain.count(20 + j) == 0 || random.nextInt(4) == 0;
+        if (fresh && left(200)) {
             give(run, j, 0);
             if (random.nextInt(3) > 0) {
                 give(run, j, 1);
@@ -194,14 +200,14 @@ final class RandomRunsTest {
             int j = ((Long) ended).intValue();
             both(run + "drop", () -> mill.drop(j) ? 1 : 0, () -> plain.drop(j) ? 1 : 0);
         }
-        compareFiles(run);
+        compareFiles(run, 8);
     }
 
     private void disturb(String run) {
         int many = random.nextInt(3) == 0 ? 0 : random.nextInt(60);
         int most = random.nextInt(2) == 0 ? 6 : 200;
         int quiet = random.nextInt(3) == 0 ? random.nextInt(7) : 9;
-        for (int i = 0; i < many && calls < CALLS - 20; i++) {
+        for (int i = 0; i < many && left(40); i++) {
             int kind = random.nextInt(20);
             int w = random.nextInt(7);
             int n = 1 + random.nextInt(most);
@@ -252,16 +258,25 @@ final class RandomRunsTest {
         }
     }
 
-    /** Not counted as calls: nothing that is read changes the object. */
-    private void compareFiles(String run) {
+    /** All sizes, and a KEY or a VALUE here and there. */
+    private void compareFiles(String run, int many) {
+        int[] filled = new int[16];
+        int files = 0;
         for (int f = 0; f < 16; f++) {
-            Due.is(run + "size of " + f, plain.size(f), mill.size(f));
-            for (int i = 0; i < Math.min(plain.size(f), mill.size(f)); i++) {
-                records++;
-                Due.is(run + "key", plain.told(f, i, false), mill.told(f, i, false));
-                Due.is(run + "value", plain.told(f, i, true), mill.told(f, i, true));
+            int at = f;
+            both(run + "size of " + f, () -> mill.size(at), () -> plain.size(at));
+            if (plain.size(f) > 0) {
+                filled[files] = f;
+                files++;
             }
         }
-        Due.is(run + "check", 0, mill.check());
+        for (int k = 0; k < many && files > 0; k++) {
+            int f = filled[random.nextInt(files)];
+            int i = random.nextInt(plain.size(f));
+            boolean value = random.nextBoolean();
+            seen++;
+            both(run + "told", () -> mill.told(f, i, value), () -> plain.told(f, i, value));
+        }
+        both(run + "check", mill::check, plain::check);
     }
 }

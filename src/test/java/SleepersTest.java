@@ -4,7 +4,7 @@
  */
 final class SleepersTest {
     public static void main(String[] args) {
-        for (int rounds = 0; rounds < 20; rounds++) {
+        for (int rounds = 0; rounds < 16; rounds++) {
             for (int sleeper = 0; sleeper < 6; sleeper++) {
                 for (int ticks = 2; ticks <= 5; ticks += 3) {
                     sleep(rounds, sleeper, ticks);
@@ -20,7 +20,7 @@ final class SleepersTest {
             for (int i = 0; i < 7 * rounds; i++) {
                 mill.tick(i % 7, ticks);
             }
-            for (int i = 0; i < 24 * 7; i++) {
+            for (int i = 0; i < 20 * 7; i++) {
                 if (i % 7 != sleeper) {
                     mill.tick(i % 7, i % 7 == 6 ? 150 : 9);
                 }

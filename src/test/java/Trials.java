@@ -5,7 +5,6 @@ final class Trials {
     private Trials() {
     }
 
-    /** 70 calls, so that there are many left for THE RUN. */
     private static ShuffleMill make() {
         ShuffleMill mill = new ShuffleMill();
         for (int i = 0; i < 40; i++) {
@@ -23,11 +22,14 @@ final class Trials {
         return mill;
     }
 
+    /**
+     * Troubles may be some 280 calls, so that no mill gets more than 512. All that JOBS 0 and 1 make goes into what
+     * JOB 2 makes, which is read whole.
+     */
     static void compare(String what, Consumer<ShuffleMill> trouble) {
         ShuffleMill quiet = make();
         quiet.begin();
         Due.is(what + ": the quiet end", -1, quiet.finish());
-        Due.is(what + ": something came of it", 1, quiet.size(3) > 30 ? 1 : 0);
         ShuffleMill mill = make();
         Due.is(what + ": begin", 3, mill.begin());
         trouble.accept(mill);
@@ -38,10 +40,12 @@ final class Trials {
         Due.is(what + ": check", 0, mill.check());
         for (int f = 0; f < 16; f++) {
             Due.is(what + ": size of " + f, quiet.size(f), mill.size(f));
-            for (int i = 0; i < Math.min(quiet.size(f), mill.size(f)); i++) {
-                Due.is(what + ": key", quiet.told(f, i, false), mill.told(f, i, false));
-                Due.is(what + ": value", quiet.told(f, i, true), mill.told(f, i, true));
-            }
+        }
+        int size = mill.size(3);
+        Due.yes(what + ": something came of it", size > 30);
+        for (int i = 0; i < Math.min(size, quiet.size(3)); i++) {
+            Due.is(what + ": key", quiet.told(3, i, false), mill.told(3, i, false));
+            Due.is(what + ": value", quiet.told(3, i, true), mill.told(3, i, true));
         }
     }
 }
