@@ -5,6 +5,7 @@ final class Promise08BeginTest {
         Due.test("(also without JOBS)", Promise08BeginTest::withoutJobs);
         Due.test("how many JOBS THE CHAIN has", Promise08BeginTest::howMany);
         Due.test("a RUN behind another", Promise08BeginTest::again);
+        Due.test("nothing of the last RUN is left", Promise08BeginTest::nothingLeft);
         Due.test("IllegalStateException if it goes on", Promise08BeginTest::running);
         Due.test("UnsupportedOperationException if THE CHAIN can not be run: no order", () -> cannot(mill -> {
             Due.copyJob(mill, 6, 0, 8, 9, 1);
@@ -73,6 +74,50 @@ final class Promise08BeginTest {
         Due.is("one that FAILS", 0, Due.runAlone(mill));
         Due.is("begin behind it", 2, mill.begin());
         Due.is("RUNS", 7, mill.count(3));
+    }
+
+    /**
+     * The first RUN stands still, or is over, with much on the line and on the disks; behind it the same JOB, mended,
+     * is run with other RECORDS.
+     */
+    private static void nothingLeft() {
+        for (int rounds = 1; rounds <= 12; rounds++) {
+            for (int fails = 0; fails <= 1; fails++) {
+                ShuffleMill mill = new ShuffleMill();
+                for (int i = 0; i < 40; i++) {
+                    mill.record(0, i, i);
+                }
+                Due.copyJob(mill, 0, 0, -1, 1, 2);
+                if (fails == 1) {
+                    // the call for KEY 2 divides by 0
+                    Due.give(mill, 0, Due.MAP, 0, 1, 1, 0, 0, 2, 7, 0, 9, 0, 13, 0, 1, 0, 2, 0, 17, 0);
+                }
+                mill.begin();
+                for (int i = 0; i < 7 * rounds; i++) {
+                    mill.tick(i % 7, 4);
+                }
+                for (int w = 0; w < 6; w++) {
+                    mill.tick(w, 30);
+                }
+                Due.is("the first RUN", fails == 1 ? 0 : -1, mill.finish());
+                mill.clear(0);
+                for (int i = 0; i < 36; i++) {
+                    mill.record(0, 35 - i, 100 + i);
+                }
+                Due.give(mill, 0, Due.MAP, Due.COPY);
+                mill.begin();
+                for (int i = 0; i < 14; i++) {
+                    mill.tick(6 - i % 7, 2);
+                    Due.is("check", 0, mill.check());
+                }
+                Due.is("the second RUN", -1, mill.finish());
+                Due.is("size", 36, mill.size(1));
+                for (int i = 0; i < 18; i++) {
+                    Due.is("VALUE of an even KEY", 135 - 2 * i, mill.told(1, i, true));
+                    Due.is("VALUE of an odd KEY", 134 - 2 * i, mill.told(1, 18 + i, true));
+                }
+            }
+        }
     }
 
     private static void running() {

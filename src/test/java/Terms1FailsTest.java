@@ -7,6 +7,7 @@ final class Terms1FailsTest {
         Due.test("if a call has a TRAP: of COMBINE", () -> trapOf(Due.COMBINE));
         Due.test("if a call has a TRAP: of REDUCE", () -> trapOf(Due.REDUCE));
         Due.test("the pairs of all SPLITS are more than 1000", Terms1FailsTest::manyPairs);
+        Due.test("1000 pairs are put in order", Terms1FailsTest::orderOfAll);
         Due.test("of all SPLITS, not of one PART", Terms1FailsTest::manyPairsInParts);
         Due.test("(behind COMBINE), which makes more", Terms1FailsTest::moreBehindCombine);
         Due.test("(behind COMBINE), which makes fewer", Terms1FailsTest::fewerBehindCombine);
@@ -18,12 +19,25 @@ final class Terms1FailsTest {
         Due.end();
     }
 
-    /** Ways to do the tasks: by all, and by one WORKER, whose disk then takes all. */
+    /**
+     * Ways to do the tasks: by all; by one WORKER, whose disk then takes all; and with a MASTER that must find in its
+     * journal again and again how much there is.
+     */
     private static void eachWay(String what, Consumer<ShuffleMill> fill, int want, int output) {
         way(what + ", by all", fill, want, output, mill -> { });
         way(what + ", by WORKER 4 alone", fill, want, output, mill -> {
             for (int i = 0; i < 70; i++) {
                 mill.tick(4, 20);
+                mill.tick(6, 1);
+            }
+        });
+        way(what + ", with a MASTER that crashes", fill, want, output, mill -> {
+            for (int i = 0; i < 15; i++) {
+                mill.crash(6);
+                mill.tick(6, 1);
+                for (int w = 0; w < 6; w++) {
+                    mill.tick(w, 40);
+                }
                 mill.tick(6, 1);
             }
         });
@@ -164,21 +178,34 @@ final class Terms1FailsTest {
         }
     }
 
-    /** Two JOBS, each with 1000 pairs and 250 RECORDS. */
+    /** Three JOBS, each with 1000 pairs of KEYS that come the other way round, and 250 RECORDS. */
     private static void eachForItself() {
+        eachWay("three JOBS with 1000 pairs", mill -> {
+            for (int i = 0; i < 250; i++) {
+                mill.record(0, 250 - i, 1);
+            }
+            for (int j = 0; j < 3; j++) {
+                Due.give(mill, j, Due.MAP, Calls.times(4, 1, 0, 2, 0, 17, 0));
+                Due.give(mill, j, Due.REDUCE, Due.SUM);
+                mill.job(j, 0, -1, 4 - j, 1);
+            }
+        }, -1, 250);
+    }
+
+    /** All 1000 pairs are of one PART, those of the last SPLIT being the first in order. */
+    private static void orderOfAll() {
         ShuffleMill mill = new ShuffleMill();
         for (int i = 0; i < 250; i++) {
-            mill.record(0, i, 1);
+            mill.record(0, 250 - i, i);
         }
-        long[] four = Calls.times(4, 1, 0, 2, 0, 17, 0);
-        for (int j = 0; j < 2; j++) {
-            Due.give(mill, j, Due.MAP, four);
-            Due.give(mill, j, Due.REDUCE, Due.SUM);
-            mill.job(j, 0, -1, 1 + j, 2);
-        }
+        Due.give(mill, 0, Due.MAP, Calls.times(4, 1, 0, 2, 0, 17, 0));
+        Due.give(mill, 0, Due.REDUCE, Due.SUM);
+        mill.job(0, 0, -1, 1, 1);
         Due.is("finish", -1, Due.runAlone(mill));
-        Due.is("size", 250, mill.size(1));
-        Due.is("size", 250, mill.size(2));
+        Due.is("KEYS", 250, mill.size(1));
+        for (int i = 0; i < 200; i++) {
+            Due.is("KEY " + i, i + 1, mill.told(1, i, false));
+        }
     }
 
     /** Each JOB doubles what the one before it made of 300 RECORDS. */

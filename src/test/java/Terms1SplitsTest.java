@@ -288,6 +288,19 @@ final class Terms1SplitsTest {
         Due.is("finish", -1, Due.runAlone(mill));
         Due.file("not put in order, nor cut into PARTS", mill, 1,
                 0, 0, 50, 0, -2, 2, 50, 2, -1, 1, 50, 1, -3, 3, 50, 3);
+        Due.give(mill, 0, Due.REDUCE, 1, 0, 0, 1, 6, 0, 2, 0, 17, 0, 0, -1, 1, 0, 17, 0);
+        for (int parts = 1; parts <= 6; parts++) {
+            mill.job(0, 0, -1, 1, parts);
+            Due.is("KEYS of other PARTS", -1, Due.runAlone(mill));
+            Due.is("size", 8, mill.size(1));
+            for (int part = 0, i = 0; part < parts; part++) {
+                for (int key = part; key < 4; key += parts, i += 2) {
+                    Due.is("KEY and 1", key + 1, mill.told(1, i, false));
+                    Due.is("-1", -1, mill.told(1, i + 1, false));
+                    Due.is("the KEY", key, mill.told(1, i + 1, true));
+                }
+            }
+        }
         Due.give(mill, 0, Due.REDUCE, 18, 0);
         Due.is("a REDUCE that emits nothing", -1, Due.runAlone(mill));
         Due.is("an empty OUTPUT", 0, mill.size(1));
