@@ -45,7 +45,7 @@ final class Terms1InstructionsTest {
         Due.end();
     }
 
-    /** An INSTRUCTION on two longs, under which a third one lies that stays. */
+    /** An INSTRUCTION on two longs, the lower one first, and what it leaves. */
     private static void twoOnes(int op, long[][] cases) {
         for (long[] c : cases) {
             Calls.top(c[0] + " and " + c[1], c[2], 0, c[0], 0, c[1], op, 0);
@@ -170,8 +170,7 @@ final class Terms1InstructionsTest {
     private static void doubles() {
         Calls.top("two of them", 12, 0, 6, 12, 0, 6, 0);
         Calls.top("what lies below stays", 5, 0, 5, 0, 6, 12, 0, 13, 0, 13, 0);
-        Calls.top("up to 12", 12, Calls.join(Calls.code(0, 1), Calls.times(11, 12, 0), Calls.times(11, 6, 0),
-                Calls.pads(2, 23)));
+        Calls.top("up to 12", 12, Calls.join(Calls.code(0, 1), Calls.times(11, 12, 0), Calls.times(11, 6, 0)));
     }
 
     private static void drops() {
