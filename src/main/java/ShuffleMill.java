@@ -364,7 +364,7 @@ public final class ShuffleMill {
             if (scratch.keys.length < length) {
                 return;
             }
-            for (int width = 1; width < length; width *= 2) {
+            for (int width = 1; width < length && width < PAIRS; width *= 2) {
                 for (int from = 0; from < length; from += 2 * width) {
                     merge(scratch, from, width);
                 }

